@@ -2,8 +2,14 @@
 final class Due {
     private static final int MOST_SHOWN = 40;
 
+    private String sentence = "";
     private long compared = 0;
     private long wrong = 0;
+
+    /** The document's words that the next answers are about; shown with those that are wrong. */
+    void about(String words) {
+        sentence = "[" + words + "] ";
+    }
 
     void same(String call, long got, long want) {
         compared++;
@@ -12,7 +18,7 @@ final class Due {
         }
         wrong++;
         if (wrong <= MOST_SHOWN) {
-            System.out.println(call + " answered " + got + ", due is " + want);
+            System.out.println(sentence + call + " answered " + got + ", due is " + want);
         }
     }
 
@@ -26,6 +32,10 @@ final class Due {
 
     boolean anyWrong() {
         return wrong != 0;
+    }
+
+    long compared() {
+        return compared;
     }
 
     void end() {

@@ -35,33 +35,7 @@ public final class PromisesTest {
         otherwiseRefused();
         draw();
         count();
-        refusedChangesNothing();
         due.end();
-    }
-
-    /** That many THINGS, all SEEN, with these ARROWS: from, to, from, to, .. */
-    private static MadeItSo drawn(int things, int... arrows) {
-        MadeItSo x = new MadeItSo();
-        for (int k = 0; k < things; k++) {
-            x.thing(true);
-        }
-        for (int i = 0; i + 1 < arrows.length; i += 2) {
-            due.same("arrow(" + arrows[i] + ", " + arrows[i + 1] + ")", x.arrow(arrows[i], arrows[i + 1]), true);
-        }
-        return x;
-    }
-
-    /** 0 leads to 1: CASES 00, 10, 01, 11 (what 0 is, what 1 is) weigh 5600, 300, 1400, 2700. */
-    private static MadeItSo pair() {
-        MadeItSo x = drawn(2, 0, 1);
-        x.book(0, 0, 30);
-        x.book(1, 0, 20);
-        x.book(1, 1, 90);
-        return x;
-    }
-
-    private static int is(int thing, int value) {
-        return 1 << thing | value << (thing + 8);
     }
 
     private static void newObject() {
@@ -102,7 +76,7 @@ public final class PromisesTest {
     }
 
     private static void arrow() {
-        MadeItSo x = drawn(4, 2, 0, 1, 0);
+        MadeItSo x = Made.drawn(4, 2, 0, 1, 0);
         due.same("arrow: parents", x.told(0, 1), 6);
         x.book(0, 2, 7);
         x.book(1, 0, 8);
@@ -118,7 +92,7 @@ public final class PromisesTest {
     }
 
     private static void arrowRefused() {
-        MadeItSo x = drawn(5, 0, 1, 1, 2, 2, 3);
+        MadeItSo x = Made.drawn(5, 0, 1, 1, 2, 2, 3);
         x.book(0, 0, 9);
         x.book(3, 1, 9);
         due.same("arrow that is there", x.arrow(0, 1), false);
@@ -141,7 +115,7 @@ public final class PromisesTest {
     }
 
     private static void cut() {
-        MadeItSo x = drawn(3, 0, 2, 1, 2);
+        MadeItSo x = Made.drawn(3, 0, 2, 1, 2);
         x.book(2, 0, 1);
         x.book(2, 3, 3);
         x.book(0, 0, 4);
@@ -165,7 +139,7 @@ public final class PromisesTest {
     }
 
     private static void turn() {
-        MadeItSo x = drawn(3, 0, 1, 2, 1);
+        MadeItSo x = Made.drawn(3, 0, 1, 2, 1);
         x.book(0, 0, 11);
         x.book(1, 0, 14);
         x.book(1, 1, 15);
@@ -187,7 +161,7 @@ public final class PromisesTest {
     }
 
     private static void turnRefused() {
-        MadeItSo x = drawn(4, 0, 1, 1, 2, 0, 2);
+        MadeItSo x = Made.drawn(4, 0, 1, 1, 2, 0, 2);
         x.book(0, 0, 21);
         x.book(2, 3, 22);
         due.same("turn that leads round", x.turn(0, 2), false);
@@ -207,7 +181,7 @@ public final class PromisesTest {
     }
 
     private static void book() {
-        MadeItSo x = drawn(3, 1, 0, 2, 0);
+        MadeItSo x = Made.drawn(3, 1, 0, 2, 0);
         for (int row = 0; row < 4; row++) {
             due.same("book row " + row, x.book(0, row, 10 * row), true);
         }
@@ -232,7 +206,7 @@ public final class PromisesTest {
     }
 
     private static void booked() {
-        MadeItSo x = drawn(8, 0, 4, 1, 4, 2, 4, 3, 4, 5, 4, 6, 4, 7, 4);
+        MadeItSo x = Made.drawn(8, 0, 4, 1, 4, 2, 4, 3, 4, 5, 4, 6, 4, 7, 4);
         due.same("booked row 127", x.booked(4, 127), 50);
         due.same("booked row 128", x.booked(4, 128), MadeItSo.NONE);
         due.same("book row 127", x.book(4, 127, 1), true);
@@ -243,17 +217,17 @@ public final class PromisesTest {
             due.same("booked(5, " + no + ")", x.booked(5, no), MadeItSo.NONE);
         }
         // bit 0 is PARENT 1, bit 1 is PARENT 3, in whatever order they came
-        MadeItSo y = drawn(4, 3, 0, 1, 0);
+        MadeItSo y = Made.drawn(4, 3, 0, 1, 0);
         y.book(0, 1, 100);
         y.book(0, 0, 0);
         y.book(0, 2, 0);
         y.book(0, 3, 0);
-        due.same("ROW 1 is that of PARENT 1", y.weight(is(0, 1) | is(1, 1) | is(3, 0), 0), 100 * 50 * 50 * 100);
-        due.same("ROW 2 is that of PARENT 3", y.weight(is(0, 1) | is(1, 0) | is(3, 1), 0), 0);
+        due.same("ROW 1 is that of PARENT 1", y.weight(Made.is(0, 1) | Made.is(1, 1) | Made.is(3, 0), 0), 100 * 50 * 50 * 100);
+        due.same("ROW 2 is that of PARENT 3", y.weight(Made.is(0, 1) | Made.is(1, 0) | Made.is(3, 1), 0), 0);
     }
 
     private static void told() {
-        MadeItSo x = drawn(5, 3, 1, 1, 0, 3, 2);
+        MadeItSo x = Made.drawn(5, 3, 1, 1, 0, 3, 2);
         x.thing(false);
         due.same("told seen", x.told(0, 0), 1);
         due.same("told unseen", x.told(5, 0), 0);
@@ -270,24 +244,24 @@ public final class PromisesTest {
             due.same("told(" + no + ", 0)", x.told(no, 0), MadeItSo.NONE);
             due.same("told(" + no + ", 3)", x.told(no, 3), MadeItSo.NONE);
         }
-        MadeItSo y = drawn(8, 0, 1, 1, 2, 2, 3, 3, 4, 4, 5, 5, 6, 6, 7);
+        MadeItSo y = Made.drawn(8, 0, 1, 1, 2, 2, 3, 3, 4, 4, 5, 5, 6, 6, 7);
         due.same("told below of a long row", y.told(0, 3), 254);
-        MadeItSo z = drawn(8, 7, 6, 6, 5, 5, 4, 4, 3, 3, 2, 2, 1, 1, 0);
+        MadeItSo z = Made.drawn(8, 7, 6, 6, 5, 5, 4, 4, 3, 3, 2, 2, 1, 1, 0);
         due.same("told below of a long row downward", z.told(7, 3), 127);
     }
 
     private static void weight() {
-        MadeItSo x = pair();
+        MadeItSo x = Made.pair();
         due.same("weight of all", x.weight(0, 0), 10000);
-        due.same("weight 00", x.weight(is(0, 0) | is(1, 0), 0), 5600);
-        due.same("weight 10", x.weight(is(0, 1) | is(1, 0), 0), 300);
-        due.same("weight 01", x.weight(is(0, 0) | is(1, 1), 0), 1400);
-        due.same("weight 11", x.weight(is(0, 1) | is(1, 1), 0), 2700);
-        due.same("weight 1 is 1", x.weight(is(1, 1), 0), 4100);
-        due.same("weight 0 is 0", x.weight(is(0, 0), 0), 7000);
+        due.same("weight 00", x.weight(Made.is(0, 0) | Made.is(1, 0), 0), 5600);
+        due.same("weight 10", x.weight(Made.is(0, 1) | Made.is(1, 0), 0), 300);
+        due.same("weight 01", x.weight(Made.is(0, 0) | Made.is(1, 1), 0), 1400);
+        due.same("weight 11", x.weight(Made.is(0, 1) | Made.is(1, 1), 0), 2700);
+        due.same("weight 1 is 1", x.weight(Made.is(1, 1), 0), 4100);
+        due.same("weight 0 is 0", x.weight(Made.is(0, 0), 0), 7000);
         x.thing(false);
-        due.same("weight with one more", x.weight(is(1, 1), 0), 410000);
-        MadeItSo y = drawn(8);
+        due.same("weight with one more", x.weight(Made.is(1, 1), 0), 410000);
+        MadeItSo y = Made.drawn(8);
         due.same("weight of 8", y.weight(0, 0), 10000000000000000L);
         for (int k = 0; k < 8; k++) {
             y.book(k, 0, 100);
@@ -297,20 +271,20 @@ public final class PromisesTest {
     }
 
     private static void weightUnderDeed() {
-        MadeItSo x = pair();
-        due.same("deed on 0", x.weight(is(1, 1), is(0, 1)), 9000);
-        due.same("deed on 0, the other", x.weight(is(1, 1), is(0, 0)), 2000);
-        due.same("deed on 1 tells nothing of 0", x.weight(is(0, 1), is(1, 1)), 3000);
-        due.same("deed and SETTING otherwise", x.weight(is(0, 1), is(0, 0)), 0);
-        due.same("deed and SETTING the same", x.weight(is(0, 1), is(0, 1)), 10000);
-        due.same("deed on both", x.weight(is(0, 1) | is(1, 0), is(0, 1) | is(1, 0)), 10000);
+        MadeItSo x = Made.pair();
+        due.same("deed on 0", x.weight(Made.is(1, 1), Made.is(0, 1)), 9000);
+        due.same("deed on 0, the other", x.weight(Made.is(1, 1), Made.is(0, 0)), 2000);
+        due.same("deed on 1 tells nothing of 0", x.weight(Made.is(0, 1), Made.is(1, 1)), 3000);
+        due.same("deed and SETTING otherwise", x.weight(Made.is(0, 1), Made.is(0, 0)), 0);
+        due.same("deed and SETTING the same", x.weight(Made.is(0, 1), Made.is(0, 1)), 10000);
+        due.same("deed on both", x.weight(Made.is(0, 1) | Made.is(1, 0), Made.is(0, 1) | Made.is(1, 0)), 10000);
         x.book(0, 0, 0);
-        due.same("deed that the BOOK says never", x.weight(is(1, 1), is(0, 1)), 9000);
-        due.same("all under it", x.weight(0, is(0, 1)), 10000);
+        due.same("deed that the BOOK says never", x.weight(Made.is(1, 1), Made.is(0, 1)), 9000);
+        due.same("all under it", x.weight(0, Made.is(0, 1)), 10000);
     }
 
     private static void settings() {
-        MadeItSo x = pair();
+        MadeItSo x = Made.pair();
         int[] none = {4, 128, 256, 512, 1 | 512, 2 | 256, 1024, 65535, 65536, 65536 | 1, 1 << 30, -1, -65536, Integer.MIN_VALUE};
         for (int no : none) {
             due.same("weight(" + no + ", 0)", x.weight(no, 0), MadeItSo.NONE);
@@ -323,22 +297,22 @@ public final class PromisesTest {
     }
 
     private static void chance() {
-        MadeItSo x = pair();
-        fraction(x, is(0, 1), is(1, 1), 0, 27, 41);
-        fraction(x, is(1, 1), is(0, 1), 0, 9, 10);
-        fraction(x, is(0, 1), is(1, 1), is(1, 1), 3, 10);
-        fraction(x, is(0, 1), 0, is(1, 1), 3, 10);
-        fraction(x, is(1, 1), 0, 0, 41, 100);
-        fraction(x, is(0, 1), is(0, 0), 0, 0, 1);
-        fraction(x, is(0, 1), is(0, 1), 0, 1, 1);
-        fraction(x, 0, is(0, 1), 0, 1, 1);
-        fraction(x, is(0, 1) | is(1, 1), is(1, 1), 0, 27, 41);
-        fraction(x, is(0, 1) | is(1, 0), is(1, 1), 0, 0, 1);
-        due.same("chance given what the deed bars", x.chance(is(1, 1), is(0, 1), is(0, 0)), 0);
+        MadeItSo x = Made.pair();
+        fraction(x, Made.is(0, 1), Made.is(1, 1), 0, 27, 41);
+        fraction(x, Made.is(1, 1), Made.is(0, 1), 0, 9, 10);
+        fraction(x, Made.is(0, 1), Made.is(1, 1), Made.is(1, 1), 3, 10);
+        fraction(x, Made.is(0, 1), 0, Made.is(1, 1), 3, 10);
+        fraction(x, Made.is(1, 1), 0, 0, 41, 100);
+        fraction(x, Made.is(0, 1), Made.is(0, 0), 0, 0, 1);
+        fraction(x, Made.is(0, 1), Made.is(0, 1), 0, 1, 1);
+        fraction(x, 0, Made.is(0, 1), 0, 1, 1);
+        fraction(x, Made.is(0, 1) | Made.is(1, 1), Made.is(1, 1), 0, 27, 41);
+        fraction(x, Made.is(0, 1) | Made.is(1, 0), Made.is(1, 1), 0, 0, 1);
+        due.same("chance given what the deed bars", x.chance(Made.is(1, 1), Made.is(0, 1), Made.is(0, 0)), 0);
         x.book(0, 0, 0);
-        due.same("chance given what never is", x.chance(is(1, 1), is(0, 1), 0), 0);
-        due.same("chance of nothing given what never is", x.chance(0, is(0, 1), 0), 0);
-        due.same("chance NONE goes ahead of 0", x.chance(4, is(0, 1), 0), MadeItSo.NONE);
+        due.same("chance given what never is", x.chance(Made.is(1, 1), Made.is(0, 1), 0), 0);
+        due.same("chance of nothing given what never is", x.chance(0, Made.is(0, 1), 0), 0);
+        due.same("chance NONE goes ahead of 0", x.chance(4, Made.is(0, 1), 0), MadeItSo.NONE);
     }
 
     private static void fraction(MadeItSo x, int setting, int given, int deed, long above, long below) {
@@ -349,8 +323,8 @@ public final class PromisesTest {
     }
 
     private static void aboveAndBelow() {
-        MadeItSo x = pair();
-        fraction(x, is(0, 1), is(1, 1), 0, 27, 41);
+        MadeItSo x = Made.pair();
+        fraction(x, Made.is(0, 1), Made.is(1, 1), 0, 27, 41);
         x.book(0, 0, 90);
         x.weight(0, 0);
         x.cut(0, 1);
@@ -359,22 +333,22 @@ public final class PromisesTest {
         due.same("chance NONE", x.chance(-1, 0, 0), MadeItSo.NONE);
         due.same("above() behind NONE", x.above(), 0);
         due.same("below() behind NONE", x.below(), 1);
-        fraction(x, is(0, 1), 0, 0, 9, 10);
+        fraction(x, Made.is(0, 1), 0, 0, 9, 10);
         x.book(1, 0, 0);
-        due.same("chance 0", x.chance(is(0, 1), is(1, 1), 0), 0);
+        due.same("chance 0", x.chance(Made.is(0, 1), Made.is(1, 1), 0), 0);
         due.same("above() behind 0", x.above(), 0);
         due.same("below() behind 0", x.below(), 1);
     }
 
     private static void bars() {
-        MadeItSo chain = drawn(3, 0, 1, 1, 2);
+        MadeItSo chain = Made.drawn(3, 0, 1, 1, 2);
         due.same("chain, nothing known", chain.bars(1, 4, 0), false);
         due.same("chain, the middle known", chain.bars(1, 4, 2), true);
         due.same("chain against", chain.bars(4, 1, 2), true);
-        MadeItSo fork = drawn(3, 1, 0, 1, 2);
+        MadeItSo fork = Made.drawn(3, 1, 0, 1, 2);
         due.same("fork, nothing known", fork.bars(1, 4, 0), false);
         due.same("fork, the middle known", fork.bars(1, 4, 2), true);
-        MadeItSo meeting = drawn(5, 0, 1, 2, 1, 1, 3, 3, 4);
+        MadeItSo meeting = Made.drawn(5, 0, 1, 2, 1, 1, 3, 3, 4);
         due.same("meeting, nothing known", meeting.bars(1, 4, 0), true);
         due.same("meeting known", meeting.bars(1, 4, 2), false);
         due.same("one far below a meeting known", meeting.bars(1, 4, 16), false);
@@ -382,20 +356,20 @@ public final class PromisesTest {
         due.same("meeting and its child", meeting.bars(1 | 4, 8, 2), true);
         due.same("one behind the other side", meeting.bars(1, 4 | 8, 0), false);
         // a way through a thing of the same heap is a way all the same
-        due.same("way through one of its own", drawn(3, 0, 1, 1, 2).bars(1 | 2, 4, 0), false);
+        due.same("way through one of its own", Made.drawn(3, 0, 1, 1, 2).bars(1 | 2, 4, 0), false);
         due.same("no thing", meeting.bars(0, 1, 0), true);
         due.same("nothing at all", meeting.bars(0, 0, 31), true);
-        due.same("joined ones", drawn(2, 0, 1).bars(1, 2, 0), false);
-        due.same("not joined", drawn(2).bars(1, 2, 0), true);
+        due.same("joined ones", Made.drawn(2, 0, 1).bars(1, 2, 0), false);
+        due.same("not joined", Made.drawn(2).bars(1, 2, 0), true);
         // a meeting that is open by a THING below it, behind which the way goes on
-        MadeItSo m = drawn(6, 0, 2, 1, 2, 1, 3, 4, 3, 2, 5);
+        MadeItSo m = Made.drawn(6, 0, 2, 1, 2, 1, 3, 4, 3, 2, 5);
         due.same("two meetings, one open", m.bars(1, 16, 32), true);
         due.same("two meetings, both open", m.bars(1, 16, 32 | 8), false);
         due.same("both open, but the fork known", m.bars(1, 16, 32 | 8 | 2), true);
     }
 
     private static void barsRefused() {
-        MadeItSo x = drawn(3);
+        MadeItSo x = Made.drawn(3);
         due.same("bars: no ARROWS", x.bars(1, 2, 4), true);
         due.same("bars: a and b share", x.bars(3, 2, 4), false);
         due.same("bars: a and z share", x.bars(1, 2, 5), false);
@@ -408,15 +382,15 @@ public final class PromisesTest {
     }
 
     private static void least() {
-        MadeItSo x = drawn(4, 0, 1, 1, 3, 0, 2, 2, 3);
+        MadeItSo x = Made.drawn(4, 0, 1, 1, 3, 0, 2, 2, 3);
         due.same("least of a diamond", x.least(0, 3), 1);
         due.same("leastAt of a diamond", x.leastAt(0, 3, 0), 6);
         due.same("least of its sides", x.least(1, 2), 1);
         due.same("leastAt of its sides", x.leastAt(2, 1, 0), 1);
         due.same("least of joined ones", x.least(0, 1), 0);
         due.same("leastAt of joined ones", x.leastAt(0, 1, 0), MadeItSo.NONE);
-        due.same("least of ones apart", drawn(3).least(0, 1), 1);
-        due.same("leastAt of ones apart", drawn(3).leastAt(0, 1, 0), 0);
+        due.same("least of ones apart", Made.drawn(3).least(0, 1), 1);
+        due.same("leastAt of ones apart", Made.drawn(3).leastAt(0, 1, 0), 0);
         for (int no : WRONG) {
             due.same("least(0, " + no + ")", x.least(0, no), MadeItSo.NONE);
             due.same("least(" + no + ", 0)", x.least(no, 0), MadeItSo.NONE);
@@ -440,7 +414,7 @@ public final class PromisesTest {
 
     private static void leastOrder() {
         // 0 to 7 by two rows of three; a heap has one of each row
-        MadeItSo x = drawn(8, 0, 1, 1, 2, 2, 3, 3, 7, 0, 4, 4, 5, 5, 6, 6, 7);
+        MadeItSo x = Made.drawn(8, 0, 1, 1, 2, 2, 3, 3, 7, 0, 4, 4, 5, 5, 6, 6, 7);
         int[] heaps = {2 | 16, 4 | 16, 8 | 16, 2 | 32, 4 | 32, 8 | 32, 2 | 64, 4 | 64, 8 | 64};
         due.same("least of two rows", x.least(0, 7), heaps.length);
         for (int i = 0; i < heaps.length; i++) {
@@ -449,7 +423,7 @@ public final class PromisesTest {
         }
         due.same("leastAt behind the last", x.leastAt(0, 7, heaps.length), MadeItSo.NONE);
         // a part two smaller bars, though the parts one smaller do not: 2 is a meeting, 3 a fork behind it
-        MadeItSo y = drawn(5, 0, 2, 3, 2, 3, 1, 2, 4);
+        MadeItSo y = Made.drawn(5, 0, 2, 3, 2, 3, 1, 2, 4);
         due.same("least with the empty heap", y.least(0, 1), 1);
         due.same("leastAt with the empty heap", y.leastAt(0, 1, 0), 0);
         due.same("a meeting and the fork bar, too", y.bars(1, 2, 4 | 8), true);
@@ -457,7 +431,7 @@ public final class PromisesTest {
     }
 
     private static void fit() {
-        MadeItSo x = drawn(4, 2, 0, 2, 1, 0, 1, 1, 3);
+        MadeItSo x = Made.drawn(4, 2, 0, 2, 1, 0, 1, 1, 3);
         due.same("fit: the common cause", x.fit(0, 1, 4), true);
         due.same("fit: without it", x.fit(0, 1, 0), false);
         due.same("fit: one behind the outcome", x.fit(0, 1, 4 | 8), false);
@@ -466,13 +440,13 @@ public final class PromisesTest {
         due.same("fit: a far outcome", x.fit(0, 3, 4), true);
         due.same("fit: one on the road", x.fit(0, 3, 4 | 2), false);
         // 0 to 1 by 2; 3 below 2; 4 below 0 alone
-        MadeItSo y = drawn(5, 0, 2, 2, 1, 2, 3, 0, 4);
+        MadeItSo y = Made.drawn(5, 0, 2, 2, 1, 2, 3, 0, 4);
         due.same("fit: nothing", y.fit(0, 1, 0), true);
         due.same("fit: one on the road, y", y.fit(0, 1, 4), false);
         due.same("fit: one below the road", y.fit(0, 1, 8), false);
         due.same("fit: one below the deed, off the road", y.fit(0, 1, 16), true);
         // arrows from 0 that do not lead to the road stay: 0 to 2 from 3, 3 to 1
-        MadeItSo m = drawn(4, 0, 1, 0, 2, 3, 2, 3, 1);
+        MadeItSo m = Made.drawn(4, 0, 1, 0, 2, 3, 2, 3, 1);
         due.same("fit: a meeting off the road opens", m.fit(0, 1, 4), false);
         due.same("fit: the meeting with its other parent", m.fit(0, 1, 4 | 8), true);
         MadeItSo u = new MadeItSo();
@@ -491,7 +465,7 @@ public final class PromisesTest {
     }
 
     private static void fitRefused() {
-        MadeItSo x = drawn(3);
+        MadeItSo x = Made.drawn(3);
         due.same("fit: all apart", x.fit(0, 1, 4), true);
         due.same("fit: z has a", x.fit(0, 1, 1), false);
         due.same("fit: z has b", x.fit(0, 1, 2), false);
@@ -506,7 +480,7 @@ public final class PromisesTest {
     }
 
     private static void agrees() {
-        MadeItSo x = drawn(3, 2, 0, 2, 1, 0, 1);
+        MadeItSo x = Made.drawn(3, 2, 0, 2, 1, 0, 1);
         x.book(2, 0, 40);
         x.book(0, 0, 20);
         x.book(0, 1, 70);
@@ -520,13 +494,13 @@ public final class PromisesTest {
                 due.same("agrees: without it " + u + v, x.agrees(0, 1, 0, u, v), 0);
             }
         }
-        MadeItSo pair = pair();
+        MadeItSo pair = Made.pair();
         due.same("agrees: forward", pair.agrees(0, 1, 0, 1, 1), 1);
         due.same("agrees: backward", pair.agrees(1, 0, 0, 1, 1), 0);
         pair.book(0, 0, 100);
         due.same("agrees: can't be told", pair.agrees(0, 1, 0, 0, 1), -2);
         due.same("agrees: the other can", pair.agrees(0, 1, 0, 1, 1), 1);
-        MadeItSo never = drawn(3, 2, 0, 0, 1);
+        MadeItSo never = Made.drawn(3, 2, 0, 0, 1);
         never.book(2, 0, 100);
         never.book(0, 0, 0);
         due.same("agrees: what has no WEIGHT does not count", never.agrees(0, 1, 4, 1, 1), 1);
@@ -542,7 +516,7 @@ public final class PromisesTest {
 
     /** 64 SETTINGS whose bottoms have little in common, and a sum that is just right or off by little. */
     private static void agreesExactly() {
-        MadeItSo x = drawn(8, 2, 0, 3, 0, 4, 0, 5, 0, 6, 0, 7, 0, 2, 1, 3, 1, 4, 1, 5, 1, 6, 1, 7, 1);
+        MadeItSo x = Made.drawn(8, 2, 0, 3, 0, 4, 0, 5, 0, 6, 0, 7, 0, 2, 1, 3, 1, 4, 1, 5, 1, 6, 1, 7, 1);
         due.same("agrees exactly: arrow", x.arrow(0, 1), true);
         for (int row = 0; row < 64; row++) {
             x.book(0, row, 1 + (row * 37 + 5) % 99);
@@ -558,7 +532,7 @@ public final class PromisesTest {
         due.same("agrees exactly: none", x.agrees(0, 1, 0, 0, 0), 0);
         due.same("agrees exactly: all causes again", x.agrees(0, 1, 252, 0, 1), 1);
         // 2 tells the least bit of 1 alone, and of 0: one part of a hundred in one ROW
-        MadeItSo y = drawn(3, 2, 0, 0, 1, 2, 1);
+        MadeItSo y = Made.drawn(3, 2, 0, 0, 1, 2, 1);
         y.book(2, 0, 1);
         y.book(0, 0, 50);
         y.book(0, 1, 51);
@@ -569,7 +543,7 @@ public final class PromisesTest {
     }
 
     private static void agreesRefused() {
-        MadeItSo x = drawn(3, 0, 1);
+        MadeItSo x = Made.drawn(3, 0, 1);
         due.same("agrees: as it should", x.agrees(0, 1, 4, 1, 1), 1);
         due.same("agrees: z has a", x.agrees(0, 1, 1, 1, 1), MadeItSo.NONE);
         due.same("agrees: z has b", x.agrees(0, 1, 6, 1, 1), MadeItSo.NONE);
@@ -587,7 +561,7 @@ public final class PromisesTest {
         x.book(0, 0, 100);
         due.same("agrees: NONE goes ahead of -2", x.agrees(0, 1, 1, 0, 1), MadeItSo.NONE);
         // the document does not refuse one THING for both: no CASE has it 0 and 1
-        MadeItSo one = pair();
+        MadeItSo one = Made.pair();
         due.same("agrees: one THING, the same", one.agrees(0, 0, 2, 1, 1), 1);
         due.same("agrees: one THING, otherwise", one.agrees(0, 0, 2, 1, 0), 1);
         one.book(0, 0, 0);
@@ -595,23 +569,23 @@ public final class PromisesTest {
     }
 
     private static void alike() {
-        due.same("alike: no ARROWS", drawn(8).alike(), 1);
-        due.same("alike: one ARROW", drawn(2, 0, 1).alike(), 2);
-        due.same("alike: a chain", drawn(3, 0, 1, 1, 2).alike(), 3);
-        due.same("alike: a meeting", drawn(3, 0, 1, 2, 1).alike(), 1);
-        due.same("alike: a fork", drawn(3, 1, 0, 1, 2).alike(), 3);
-        due.same("alike: a triangle", drawn(3, 0, 1, 0, 2, 1, 2).alike(), 6);
-        due.same("alike: a long row", drawn(8, 0, 1, 1, 2, 2, 3, 3, 4, 4, 5, 5, 6, 6, 7).alike(), 8);
-        due.same("alike: a star", drawn(8, 3, 0, 3, 1, 3, 2, 3, 4, 3, 5, 3, 6, 3, 7).alike(), 8);
-        due.same("alike: a star inward", drawn(4, 0, 3, 1, 3, 2, 3).alike(), 1);
-        due.same("alike: a diamond", drawn(4, 0, 1, 0, 2, 1, 3, 2, 3).alike(), 3);
-        due.same("alike: four pairs", drawn(8, 0, 1, 2, 3, 4, 5, 6, 7).alike(), 16);
-        due.same("alike: two triangles at an edge", drawn(4, 0, 1, 0, 2, 1, 2, 1, 3, 2, 3).alike(), 10);
-        due.same("alike: a meeting of joined ones", drawn(3, 0, 2, 1, 2, 0, 1).alike(), 6);
+        due.same("alike: no ARROWS", Made.drawn(8).alike(), 1);
+        due.same("alike: one ARROW", Made.drawn(2, 0, 1).alike(), 2);
+        due.same("alike: a chain", Made.drawn(3, 0, 1, 1, 2).alike(), 3);
+        due.same("alike: a meeting", Made.drawn(3, 0, 1, 2, 1).alike(), 1);
+        due.same("alike: a fork", Made.drawn(3, 1, 0, 1, 2).alike(), 3);
+        due.same("alike: a triangle", Made.drawn(3, 0, 1, 0, 2, 1, 2).alike(), 6);
+        due.same("alike: a long row", Made.drawn(8, 0, 1, 1, 2, 2, 3, 3, 4, 4, 5, 5, 6, 6, 7).alike(), 8);
+        due.same("alike: a star", Made.drawn(8, 3, 0, 3, 1, 3, 2, 3, 4, 3, 5, 3, 6, 3, 7).alike(), 8);
+        due.same("alike: a star inward", Made.drawn(4, 0, 3, 1, 3, 2, 3).alike(), 1);
+        due.same("alike: a diamond", Made.drawn(4, 0, 1, 0, 2, 1, 3, 2, 3).alike(), 3);
+        due.same("alike: four pairs", Made.drawn(8, 0, 1, 2, 3, 4, 5, 6, 7).alike(), 16);
+        due.same("alike: two triangles at an edge", Made.drawn(4, 0, 1, 0, 2, 1, 2, 1, 3, 2, 3).alike(), 10);
+        due.same("alike: a meeting of joined ones", Made.drawn(3, 0, 2, 1, 2, 0, 1).alike(), 6);
     }
 
     private static void fixed() {
-        MadeItSo x = drawn(4, 0, 2, 1, 2, 2, 3);
+        MadeItSo x = Made.drawn(4, 0, 2, 1, 2, 2, 3);
         due.same("fixed: into a meeting", x.fixed(0, 2), true);
         due.same("fixed: behind a meeting", x.fixed(2, 3), true);
         due.same("fixed: against", x.fixed(2, 0), false);
@@ -620,22 +594,22 @@ public final class PromisesTest {
             due.same("fixed(" + no + ", 2)", x.fixed(no, 2), false);
             due.same("fixed(0, " + no + ")", x.fixed(0, no), false);
         }
-        MadeItSo y = drawn(4, 0, 1, 0, 2, 1, 3, 2, 3);
+        MadeItSo y = Made.drawn(4, 0, 1, 0, 2, 1, 3, 2, 3);
         due.same("fixed: a diamond's meeting", y.fixed(1, 3), true);
         due.same("fixed: a diamond's head", y.fixed(0, 1), false);
         // else it would lead round: 0 to 3 past 1 and 2
-        MadeItSo m = drawn(4, 0, 1, 0, 2, 1, 3, 2, 3, 0, 3);
+        MadeItSo m = Made.drawn(4, 0, 1, 0, 2, 1, 3, 2, 3, 0, 3);
         due.same("fixed: what would lead round otherwise", m.fixed(0, 3), true);
         due.same("fixed: its side", m.fixed(0, 1), false);
-        due.same("fixed: one ARROW", drawn(2, 0, 1).fixed(0, 1), false);
+        due.same("fixed: one ARROW", Made.drawn(2, 0, 1).fixed(0, 1), false);
         int[] row = {0, 1, 1, 2, 2, 3, 3, 4};
         for (int k = 0; k < 4; k++) {
-            due.same("fixed: of a row, " + k, drawn(5, row).fixed(k, k + 1), false);
+            due.same("fixed: of a row, " + k, Made.drawn(5, row).fixed(k, k + 1), false);
         }
     }
 
     private static void otherwise() {
-        MadeItSo x = pair();
+        MadeItSo x = Made.pair();
         long[] forward = {7000, 8000, 2100, 2400, 2700};
         long[] backward = {0, 1700, 0, 1400, 2700};
         for (int what = 0; what < 5; what++) {
@@ -643,7 +617,7 @@ public final class PromisesTest {
             due.same("otherwise(1, 0, " + what + ")", x.otherwise(1, 0, what), backward[what]);
         }
         // 2 makes 1 the less likely the likelier it makes 0; D1 and D0 are both 5000 of 10000
-        MadeItSo y = drawn(3, 2, 0, 2, 1);
+        MadeItSo y = Made.drawn(3, 2, 0, 2, 1);
         y.book(0, 0, 0);
         y.book(0, 1, 100);
         y.book(1, 0, 100);
@@ -659,7 +633,7 @@ public final class PromisesTest {
             due.same("otherwise, always both: " + what, y.otherwise(0, 1, what), with[what]);
         }
         // 0 is always what 2 is; set by a deed it is so half the times
-        MadeItSo z = drawn(3, 2, 0, 2, 1, 0, 1);
+        MadeItSo z = Made.drawn(3, 2, 0, 2, 1, 0, 1);
         z.book(0, 0, 0);
         z.book(0, 1, 100);
         long[] never = {500000, 500000, 0, 0, 0};
@@ -676,7 +650,7 @@ public final class PromisesTest {
         for (int what = 0; what < 5; what++) {
             due.same("otherwise, seen always, done half: " + what, z.otherwise(0, 1, what), always[what]);
         }
-        MadeItSo one = drawn(2, 0, 1);
+        MadeItSo one = Made.drawn(2, 0, 1);
         one.book(0, 0, 50);
         one.book(1, 0, 40);
         one.book(1, 1, 10);
@@ -687,7 +661,7 @@ public final class PromisesTest {
     }
 
     private static void otherwiseRefused() {
-        MadeItSo x = pair();
+        MadeItSo x = Made.pair();
         for (int no : new int[] {-1, 5, 6, Integer.MAX_VALUE, Integer.MIN_VALUE}) {
             due.same("otherwise(0, 1, " + no + ")", x.otherwise(0, 1, no), MadeItSo.NONE);
         }
@@ -704,7 +678,7 @@ public final class PromisesTest {
     private static void draw() {
         int[] numbers = {38, 26, 13, 83};
         for (int k = 0; k < 4; k++) {
-            MadeItSo x = drawn(4);
+            MadeItSo x = Made.drawn(4);
             for (int m = 0; m < 4; m++) {
                 x.book(m, 0, 0);
             }
@@ -714,7 +688,7 @@ public final class PromisesTest {
             due.same("draw: less, " + k, x.draw(1, 0), 1 << k);
         }
         // 2 comes first, then 0, then 1; then 3
-        MadeItSo y = drawn(4, 2, 0, 0, 1);
+        MadeItSo y = Made.drawn(4, 2, 0, 0, 1);
         y.book(2, 0, 39);
         y.book(0, 0, 0);
         y.book(0, 1, 27);
@@ -722,14 +696,14 @@ public final class PromisesTest {
         y.book(1, 1, 14);
         y.book(3, 0, 84);
         due.same("draw: by turns", y.draw(1, 0), 15);
-        due.same("draw: a deed that sets to 0", y.draw(1, is(0, 0)), 4 | 8);
-        due.same("draw: a deed that sets to 1", y.draw(1, is(2, 1)), 15);
-        due.same("draw: a deed on the first", y.draw(1, is(2, 0)), 8);
+        due.same("draw: a deed that sets to 0", y.draw(1, Made.is(0, 0)), 4 | 8);
+        due.same("draw: a deed that sets to 1", y.draw(1, Made.is(2, 1)), 15);
+        due.same("draw: a deed on the first", y.draw(1, Made.is(2, 0)), 8);
         due.same("draw: a deed on all", y.draw(1, 15 | 10 << 8), 10);
         y.book(3, 0, 83);
         due.same("draw: the seed goes on past a deed", y.draw(1, 7 | 7 << 8), 7);
         // 3 leads to 0: of 1, 2, 3 the least number comes first, and 0 at once when 3 came
-        MadeItSo z = drawn(4, 3, 0);
+        MadeItSo z = Made.drawn(4, 3, 0);
         z.book(1, 0, 39);
         z.book(2, 0, 27);
         z.book(3, 0, 14);
@@ -740,7 +714,7 @@ public final class PromisesTest {
     }
 
     private static void count() {
-        MadeItSo x = drawn(3, 0, 1, 2, 1);
+        MadeItSo x = Made.drawn(3, 0, 1, 2, 1);
         x.thing(false);
         due.same("count things", x.count(0), 4);
         due.same("count arrows", x.count(1), 2);
@@ -748,44 +722,5 @@ public final class PromisesTest {
         for (int no : new int[] {-1, 3, 4, Integer.MAX_VALUE, Integer.MIN_VALUE}) {
             due.same("count(" + no + ")", x.count(no), MadeItSo.NONE);
         }
-    }
-
-    /** Asking, and what is refused, leaves all as it was. */
-    private static void refusedChangesNothing() {
-        MadeItSo x = drawn(4, 0, 1, 1, 2, 0, 3);
-        x.book(1, 0, 12);
-        x.book(2, 1, 34);
-        x.book(3, 0, 56);
-        long before = print(x);
-        x.arrow(2, 0);
-        x.turn(3, 0);
-        x.cut(2, 1);
-        x.book(1, 2, 1);
-        x.book(1, 0, 101);
-        x.alike();
-        x.fixed(0, 1);
-        x.fit(0, 2, 8);
-        x.least(0, 2);
-        x.agrees(0, 2, 8, 1, 1);
-        x.otherwise(0, 2, 1);
-        x.draw(99, 257);
-        x.weight(0, 257);
-        due.same("all as it was", print(x), before);
-    }
-
-    private static long print(MadeItSo x) {
-        long sum = x.count(0) + 31L * x.count(1) + 961L * x.count(2);
-        for (int k = 0; k < 8; k++) {
-            for (int what = 0; what < 4; what++) {
-                sum = sum * 31 + x.told(k, what);
-            }
-            for (int row = 0; row < 128; row++) {
-                sum = sum * 31 + x.booked(k, row);
-            }
-        }
-        for (int setting = 0; setting < 65536; setting++) {
-            sum = sum * 31 + x.weight(setting, 0);
-        }
-        return sum;
     }
 }

@@ -2,8 +2,10 @@ import java.util.Random;
 
 /** Long runs of calls with arguments right and wrong, compared call by call with the plain program. */
 public final class RandomRunsTest {
-    private static final int RUNS = 240;
-    private static final int CALLS = 300;
+    private static final int RUNS = 450;
+    private static final int MOST_CALLS = 512;
+    // what one round asks at most, above() and below() counted
+    private static final int MOST_OF_A_ROUND = 7;
     private static final int[] ODD = {
         -1, 8, 9, 31, 32, 33, 255, 256, 65535, 65536, 65537, -256, 1 << 30, Integer.MAX_VALUE, Integer.MIN_VALUE
     };
@@ -29,7 +31,7 @@ public final class RandomRunsTest {
         for (int run = 0; run < RUNS; run++) {
             RandomRunsTest test = new RandomRunsTest(run);
             test.go();
-            calls += CALLS;
+            calls += test.due.compared();
             if (test.due.anyWrong()) {
                 test.due.end();
             }
@@ -47,7 +49,7 @@ public final class RandomRunsTest {
         for (int i = 0; i < 8 * wanted; i++) {
             changeBook();
         }
-        for (int i = 0; i < CALLS; i++) {
+        while (due.compared() <= MOST_CALLS - MOST_OF_A_ROUND) {
             call(random.nextInt(40));
             due.same("above()", program.above(), plain.above());
             due.same("below()", program.below(), plain.below());
