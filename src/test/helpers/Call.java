@@ -2,7 +2,7 @@ import java.util.ArrayList;
 import java.util.List;
 
 /** One call with its arguments, written as in a program, so that it can be made on several objects. */
-record Call(String text, String name, int[] args) {
+record Call(String name, int... args) {
     /** "arrow(0, 1)", "thing(true)", "above()" */
     static Call parse(String text) {
         int open = text.indexOf('(');
@@ -12,7 +12,7 @@ record Call(String text, String name, int[] args) {
         for (int i = 0; i < args.length; i++) {
             args[i] = words[i].equals("true") ? 1 : words[i].equals("false") ? 0 : Integer.parseInt(words[i]);
         }
-        return new Call(text, text.substring(0, open), args);
+        return new Call(text.substring(0, open), args);
     }
 
     static List<Call> all(String... texts) {
@@ -24,11 +24,15 @@ record Call(String text, String name, int[] args) {
     }
 
     static Call of(String name, int... args) {
+        return new Call(name, args);
+    }
+
+    String text() {
         StringBuilder text = new StringBuilder(name + "(");
         for (int i = 0; i < args.length; i++) {
             text.append(i == 0 ? "" : ", ").append(args[i]);
         }
-        return new Call(text.append(")").toString(), name, args);
+        return text.append(")").toString();
     }
 
     boolean is(String method) {
@@ -65,7 +69,7 @@ record Call(String text, String name, int[] args) {
             case "bars" -> x.bars(args[0], args[1], args[2]);
             case "fit" -> x.fit(args[0], args[1], args[2]);
             case "fixed" -> x.fixed(args[0], args[1]);
-            default -> throw new IllegalArgumentException(text);
+            default -> throw new IllegalArgumentException(text());
         };
     }
 }

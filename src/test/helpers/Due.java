@@ -30,6 +30,14 @@ final class Due {
         same(what, holds, true);
     }
 
+    /** A chance() that is reckoned, and what above() and below() are behind it. */
+    void fraction(MadeItSo x, int setting, int given, int deed, long above, long below) {
+        String call = "chance(" + setting + ", " + given + ", " + deed + ")";
+        same(call, x.chance(setting, given, deed), 1);
+        same("above() behind " + call, x.above(), above);
+        same("below() behind " + call, x.below(), below);
+    }
+
     boolean anyWrong() {
         return wrong != 0;
     }

@@ -66,6 +66,15 @@ final class Made {
         return x;
     }
 
+    /** Eight THINGS apart, each 1 so many of 100 times. */
+    static MadeItSo eight(int parts) {
+        MadeItSo x = drawn(MOST);
+        for (int k = 0; k < MOST; k++) {
+            x.book(k, 0, parts);
+        }
+        return x;
+    }
+
     /** The SETTING in which one THING is that. */
     static int is(int thing, int value) {
         return 1 << thing | value << (thing + 8);

@@ -298,16 +298,16 @@ public final class PromisesTest {
 
     private static void chance() {
         MadeItSo x = Made.pair();
-        fraction(x, Made.is(0, 1), Made.is(1, 1), 0, 27, 41);
-        fraction(x, Made.is(1, 1), Made.is(0, 1), 0, 9, 10);
-        fraction(x, Made.is(0, 1), Made.is(1, 1), Made.is(1, 1), 3, 10);
-        fraction(x, Made.is(0, 1), 0, Made.is(1, 1), 3, 10);
-        fraction(x, Made.is(1, 1), 0, 0, 41, 100);
-        fraction(x, Made.is(0, 1), Made.is(0, 0), 0, 0, 1);
-        fraction(x, Made.is(0, 1), Made.is(0, 1), 0, 1, 1);
-        fraction(x, 0, Made.is(0, 1), 0, 1, 1);
-        fraction(x, Made.is(0, 1) | Made.is(1, 1), Made.is(1, 1), 0, 27, 41);
-        fraction(x, Made.is(0, 1) | Made.is(1, 0), Made.is(1, 1), 0, 0, 1);
+        due.fraction(x, Made.is(0, 1), Made.is(1, 1), 0, 27, 41);
+        due.fraction(x, Made.is(1, 1), Made.is(0, 1), 0, 9, 10);
+        due.fraction(x, Made.is(0, 1), Made.is(1, 1), Made.is(1, 1), 3, 10);
+        due.fraction(x, Made.is(0, 1), 0, Made.is(1, 1), 3, 10);
+        due.fraction(x, Made.is(1, 1), 0, 0, 41, 100);
+        due.fraction(x, Made.is(0, 1), Made.is(0, 0), 0, 0, 1);
+        due.fraction(x, Made.is(0, 1), Made.is(0, 1), 0, 1, 1);
+        due.fraction(x, 0, Made.is(0, 1), 0, 1, 1);
+        due.fraction(x, Made.is(0, 1) | Made.is(1, 1), Made.is(1, 1), 0, 27, 41);
+        due.fraction(x, Made.is(0, 1) | Made.is(1, 0), Made.is(1, 1), 0, 0, 1);
         due.same("chance given what the deed bars", x.chance(Made.is(1, 1), Made.is(0, 1), Made.is(0, 0)), 0);
         x.book(0, 0, 0);
         due.same("chance given what never is", x.chance(Made.is(1, 1), Made.is(0, 1), 0), 0);
@@ -315,16 +315,9 @@ public final class PromisesTest {
         due.same("chance NONE goes ahead of 0", x.chance(4, Made.is(0, 1), 0), MadeItSo.NONE);
     }
 
-    private static void fraction(MadeItSo x, int setting, int given, int deed, long above, long below) {
-        String call = "chance(" + setting + ", " + given + ", " + deed + ")";
-        due.same(call, x.chance(setting, given, deed), 1);
-        due.same("above() behind " + call, x.above(), above);
-        due.same("below() behind " + call, x.below(), below);
-    }
-
     private static void aboveAndBelow() {
         MadeItSo x = Made.pair();
-        fraction(x, Made.is(0, 1), Made.is(1, 1), 0, 27, 41);
+        due.fraction(x, Made.is(0, 1), Made.is(1, 1), 0, 27, 41);
         x.book(0, 0, 90);
         x.weight(0, 0);
         x.cut(0, 1);
@@ -333,7 +326,7 @@ public final class PromisesTest {
         due.same("chance NONE", x.chance(-1, 0, 0), MadeItSo.NONE);
         due.same("above() behind NONE", x.above(), 0);
         due.same("below() behind NONE", x.below(), 1);
-        fraction(x, Made.is(0, 1), 0, 0, 9, 10);
+        due.fraction(x, Made.is(0, 1), 0, 0, 9, 10);
         x.book(1, 0, 0);
         due.same("chance 0", x.chance(Made.is(0, 1), Made.is(1, 1), 0), 0);
         due.same("above() behind 0", x.above(), 0);
