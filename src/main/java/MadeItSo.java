@@ -31,10 +31,10 @@ public final class MadeItSo {
     }
 
     public int thing(boolean seen) {
-        if (drawing.size() >= MOST_THINGS) {
+        int number = drawing.grow();
+        if (number == NONE) {
             return NONE;
         }
-        int number = drawing.grow();
         books.blank(number);
         if (seen) {
             seenHeap |= bit(number);
@@ -398,8 +398,11 @@ public final class MadeItSo {
             return (1 << things) - 1;
         }
 
-        /** Only for a drawing with room for one THING more. */
+        /** The number of one THING more; NONE if there is no room for it. */
         int grow() {
+            if (things >= MOST_THINGS) {
+                return NONE;
+            }
             things++;
             return things - 1;
         }
